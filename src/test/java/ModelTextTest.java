@@ -156,6 +156,8 @@ public final class ModelTextTest {
         fault("1 2", 1, 2);
         fault("1x0", 1, 1);
         fault("abcdefghi", 1, 0);
+        fault("1+abcdefghi", 1, 2);
+        fault("1 abcdefghi", 1, 2);
         fault("abcdefghi1", 1, 0);
         fault("X0", 1, 0);
         fault("1 &", 1, 2);
@@ -223,6 +225,13 @@ public final class ModelTextTest {
         fault("least1(2,3)", 2, 0);
         fault("iff 1<2 then 3 else 4", 2, 0);
         fault("the", 2, 0);
+        fault("a", 2, 0);
+        fault("z", 2, 0);
+        fault("jf 1<2 then 3 else 4", 2, 0);
+        fault("feast(1,2)", 2, 0);
+        fault("lease(1,2)", 2, 0);
+        fault("post(1,2)", 2, 0);
+        fault("xhen", 2, 0);
         fault("thens", 2, 0);
         fault("1 + foo", 2, 4);
         fault("1 - - x9", 2, 6);
@@ -266,6 +275,10 @@ public final class ModelTextTest {
         fault("((((((((least(7,8)))))))))", 3, 13);
         Check.same("seven and a pair", Check.told("(((((((least(7,8))))))))"), 7);
         fault("most(1,least(1,most(1,least(1,most(1,least(1,most(1,least(1,(1", 3, 60);
+        fault("most(1,".repeat(8) + "(1", 3, 56);
+        Check.same("eight within second TELLS", Check.told("most(1,".repeat(8) + "9" + ")".repeat(8)), 9);
+        Check.same("eight within first TELLS", Check.told("least(".repeat(8) + "9" + ",8)".repeat(8)), 8);
+        fault("least(".repeat(9), 3, 53);
         fault("((((((((least 7", 1, 14);
         fault("((((((((foo", 2, 8);
         fault("((((((((1(", 1, 9);
@@ -308,6 +321,11 @@ public final class ModelTextTest {
         for (int i = 0; i < texts.length; i++) {
             int number = Check.model(shelf, texts[i]);
             Check.same("parts of '" + texts[i] + "'", shelf.parts(number), due[i]);
+        }
+        ModelShelf wide = new ModelShelf();
+        for (int i = 0; i < 5; i++) {
+            int number = Check.model(wide, "-".repeat(59) + i);
+            Check.same("parts of " + i + " of sixty PARTS each", wide.parts(number), 60);
         }
         int[] none = {-1, texts.length, 20, Integer.MIN_VALUE, Integer.MAX_VALUE};
         for (int model : none) {

@@ -244,6 +244,16 @@ public final class SideBySideTest {
         Check.same("nothing SEEN, nothing TOLD", shelf.drift(0, 0), 0);
         shelf.expect(0, 0, 0, 10);
         Check.same("nothing SEEN", shelf.drift(0, 0), 0);
+        shelf.ask(0, 0);
+        Check.same("one SEEN", shelf.drift(0, 0), 1000);
+        shelf.expect(0, 0, 2, 30);
+        Check.same("one SEEN, TOLD 10, 0, 30, 0", shelf.drift(0, 0), 250);
+        shelf.expect(0, 0, 0, 0);
+        shelf.expect(0, 0, 2, 1);
+        Check.same("one SEEN, one TOLD", shelf.drift(0, 0), 0);
+        shelf = shelf();
+        shelf.crown(0, 0);
+        shelf.expect(0, 0, 0, 10);
         int[] values = {-700, -700, -700, -100, 100, 800, 900, 1000};
         for (int v : values) {
             shelf.input(0, v);
