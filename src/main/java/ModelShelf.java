@@ -425,7 +425,7 @@ public final class ModelShelf {
         if (at == null || !isBin(k, bin)) {
             return NONE;
         }
-        return at.seenCounts[k * BINS + bin];
+        return at.seenIn(k, bin);
     }
 
     public int gave(int model, int from, int to) {
