@@ -158,6 +158,8 @@ public final class ModelTextTest {
         fault("abcdefghi", 1, 0);
         fault("1+abcdefghi", 1, 2);
         fault("1 abcdefghi", 1, 2);
+        fault("-abcdefghi", 1, 1);
+        fault("(abcdefghi", 1, 1);
         fault("abcdefghi1", 1, 0);
         fault("X0", 1, 0);
         fault("1 &", 1, 2);
