@@ -5,6 +5,7 @@ import java.util.NoSuchElementException;
 final class Check {
     private static int right = 0;
     private static int wrong = 0;
+    private static int sentences = 0;
 
     private Check() {
     }
@@ -69,7 +70,39 @@ final class Check {
         return shelf.tell(number);
     }
 
+    /** The text is no MODEL: its FAULT, the place of it, and that none is kept of it. */
+    static void fault(String text, int fault, int place) {
+        ModelShelf shelf = new ModelShelf();
+        same("model of '" + text + "'", model(shelf, text), -1);
+        trouble("'" + text + "'", shelf, 4);
+        same("fault() of '" + text + "'", shelf.fault(), fault);
+        same("where() of '" + text + "'", shelf.where(), place);
+        same("count(0) behind '" + text + "'", shelf.count(0), 0);
+    }
+
+    /** The text is a MODEL that tells this of the INPUTS. */
+    static void tells(String text, int due, int... inputs) {
+        same("'" + text + "'", told(text, inputs), due);
+    }
+
+    /** The test of one sentence of the document, whose words are told if an answer in it is not as due. */
+    static void sentence(String section, String words, Runnable test) {
+        int rightBefore = right;
+        int wrongBefore = wrong;
+        test.run();
+        sentences++;
+        if (wrong > wrongBefore) {
+            System.out.println("BROKEN: " + section + ": " + words);
+        } else if (right == rightBefore) {
+            wrong++;
+            System.out.println("NOTHING ASKED: " + section + ": " + words);
+        }
+    }
+
     static void end() {
+        if (sentences > 0) {
+            System.out.print(sentences + " sentences, ");
+        }
         System.out.println(right + " answers as due, " + wrong + " not");
         if (wrong != 0 || right == 0) {
             System.exit(1);
