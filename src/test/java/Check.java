@@ -89,7 +89,12 @@ final class Check {
     static void sentence(String section, String words, Runnable test) {
         int rightBefore = right;
         int wrongBefore = wrong;
-        test.run();
+        try {
+            test.run();
+        } catch (RuntimeException e) {
+            wrong++;
+            System.out.println("thrown: " + e);
+        }
         sentences++;
         if (wrong > wrongBefore) {
             System.out.println("BROKEN: " + section + ": " + words);

@@ -72,6 +72,7 @@ public final class EdgeTextTest {
         Check.sentence("FAULTS", "where one can be (elsewhere it is 1)", EdgeTextTest::wordElsewhere);
         Check.sentence("FAULTS", "if, then, else, least, most: there they are 1", EdgeTextTest::keywordsAreForm);
         Check.sentence("FAULTS", "or begin what they begin", EdgeTextTest::keywordsBegin);
+        Check.sentence("FAULTS", "if, then, else, least, most (to the letter)", EdgeTextTest::keywordsToTheLetter);
         Check.sentence("FAULTS", "at it", EdgeTextTest::noInputAtIt);
     }
 
@@ -145,7 +146,10 @@ public final class EdgeTextTest {
     private static void nineLetters() {
         Check.fault("abcdefghi", 1, 0);
         Check.fault("xxxxxxxxx", 1, 0);
-        Check.fault("1+abcdefghi", 1, 2);
+        String[] heads = {"1+", "1-", "2*", "-", "(", "least(", "most(1,", "if ", "if 1=", THEN, ELSE, "1 ", "if 1=1 "};
+        for (String head : heads) {
+            Check.fault(head + "abcdefghi", 1, head.length());
+        }
         Check.fault("abcdefghi5", 1, 0);
         Check.fault("a".repeat(16), 1, 0);
         Check.fault("z".repeat(300), 1, 0);
@@ -547,6 +551,22 @@ public final class EdgeTextTest {
             Check.fault(head + "least", 1, head.length() + 5);
             Check.fault(head + "most", 1, head.length() + 4);
         }
+    }
+
+    /** A keyword with one letter changed, left out, or more, is a WORD as any other. */
+    private static void keywordsToTheLetter() {
+        String[] keywords = {"if", "then", "else", "least", "most"};
+        for (String keyword : keywords) {
+            for (int i = 0; i < keyword.length(); i++) {
+                char letter = keyword.charAt(i) == 'q' ? 'p' : 'q';
+                Check.fault(keyword.substring(0, i) + letter + keyword.substring(i + 1), 2, 0);
+                Check.fault(keyword.substring(0, i) + keyword.substring(i + 1), 2, 0);
+            }
+            Check.fault(keyword + "q", 2, 0);
+            Check.fault("q" + keyword, 2, 0);
+        }
+        Check.fault("if 1=1 qhen 2 else 3", 1, 7);
+        Check.fault("if 1=1 then 2 qlse 3", 1, 14);
     }
 
     private static void noInputAtIt() {

@@ -12,6 +12,7 @@ public final class EdgeTroubleTest {
         Check.sentence("Term IV", "the latest call that may be refused (by its reason)", EdgeTroubleTest::troubleOfTheLatest);
         Check.sentence("Term IV", "call that may be refused (others leave it)", EdgeTroubleTest::othersLeaveIt);
         Check.sentence("Promise 33", "TROUBLE (asked twice)", EdgeTroubleTest::askedTwice);
+        Check.sentence("What it is", "at most 512 calls (the last)", EdgeTroubleTest::fiveHundredTwelve);
         Check.end();
     }
 
@@ -136,5 +137,20 @@ public final class EdgeTroubleTest {
         shelf.fault();
         shelf.where();
         Check.same("trouble() once more", shelf.trouble(), 1);
+    }
+
+    /** As many changes on as many DAYS as 512 calls leave room for: 5 calls, 252 times two, and three more. */
+    private static void fiveHundredTwelve() {
+        ModelShelf shelf = new ModelShelf();
+        Check.model(shelf, "0");
+        Check.model(shelf, "1");
+        shelf.door();
+        for (int day = 0; day < 252; day++) {
+            shelf.crown(0, day % 2);
+            shelf.pass(1);
+        }
+        Check.yes("crown(0, 0), call 510", shelf.crown(0, 0));
+        Check.same("about(0, 5), call 511", shelf.about(0, 5), 20);
+        Check.same("champion(0, 251), call 512", shelf.champion(0, 251), 1);
     }
 }
