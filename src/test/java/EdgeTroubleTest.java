@@ -150,7 +150,7 @@ public final class EdgeTroubleTest {
             shelf.pass(1);
         }
         Check.yes("crown(0, 0), call 510", shelf.crown(0, 0));
-        Check.same("about(0, 5), call 511", shelf.about(0, 5), 20);
+        Check.same("champion(0, 250), call 511", shelf.champion(0, 250), 0);
         Check.same("champion(0, 251), call 512", shelf.champion(0, 251), 1);
     }
 }
