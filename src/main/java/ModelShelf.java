@@ -579,7 +579,7 @@ public final class ModelShelf {
                 kind = END;
                 next = place;
             } else if (isLetter(first)) {
-                takeWord();
+                kind = kindOfWord(passWord());
             } else if (isDigit(first)) {
                 takeWhole();
             } else {
@@ -588,25 +588,25 @@ public final class ModelShelf {
             }
         }
 
-        private void takeWord() {
+        // Goes behind the letters, and behind the digit if there is one; tells how many letters there are.
+        private int passWord() {
             int behind = place;
             while (behind < end && isLetter(byteAt(behind))) {
                 behind++;
             }
-            int letters = behind - place;
-            int digit = byteAt(behind);
-            next = isDigit(digit) ? behind + 1 : behind;
-            if (letters > LONGEST_WORD) {
-                kind = NO_TOKEN;
-            } else if (isDigit(digit)) {
-                value = digit - '0';
-                kind = letters == 1 && byteAt(place) == 'x' && value < INPUTS ? INPUT : OTHER_WORD;
-            } else {
-                kind = kindOfWord(letters);
-            }
+            next = isDigit(byteAt(behind)) ? behind + 1 : behind;
+            return behind - place;
         }
 
         private int kindOfWord(int letters) {
+            if (letters > LONGEST_WORD) {
+                return NO_TOKEN;
+            }
+            int digit = byteAt(place + letters);
+            if (isDigit(digit)) {
+                value = digit - '0';
+                return letters == 1 && byteAt(place) == 'x' && value < INPUTS ? INPUT : OTHER_WORD;
+            }
             if (spells("if", letters)) {
                 return IF;
             }
@@ -785,10 +785,14 @@ public final class ModelShelf {
         }
 
         private boolean openBracket(int brackets) {
-            if (tape.kind == '(' && brackets >= MAX_DEPTH) {
+            if (tape.kind != '(') {
+                return meet(FORM);
+            }
+            if (brackets >= MAX_DEPTH) {
                 return meet(MANY);
             }
-            return take('(');
+            tape.advance();
+            return true;
         }
 
         private boolean take(int kind) {

@@ -7,6 +7,7 @@ import java.util.ArrayList;
 import java.util.Arrays;
 import java.util.Collections;
 import java.util.List;
+import java.util.NoSuchElementException;
 
 /** The public face of the document, and no other member that is not private. */
 public final class FaceTest {
@@ -43,17 +44,42 @@ public final class FaceTest {
             String name = face.substring(face.indexOf(' ') + 1, face.indexOf('('));
             Check.no("a private method bears the name " + name, hidden.contains(name));
         }
+        onlyDifferingThrows();
         fieldsAndConstructors();
+        classesInside();
         Check.end();
+    }
+
+    private static void onlyDifferingThrows() {
+        for (Method method : ModelShelf.class.getDeclaredMethods()) {
+            List<Class<?>> due =
+                method.getName().equals("differing") ? List.of(NoSuchElementException.class) : List.of();
+            Check.yes("what " + method.getName() + " says it throws", List.of(method.getExceptionTypes()).equals(due));
+        }
+    }
+
+    private static void classesInside() {
+        for (Class<?> inside : ModelShelf.class.getDeclaredClasses()) {
+            Check.yes(inside + " is static", Modifier.isStatic(inside.getModifiers()));
+            fewFields(inside);
+        }
+        fewFields(ModelShelf.class);
+    }
+
+    private static void fewFields(Class<?> one) {
+        int fields = 0;
+        for (Field field : one.getDeclaredFields()) {
+            boolean constant = Modifier.isStatic(field.getModifiers());
+            Check.yes(field + ": what is static is final", !constant || Modifier.isFinal(field.getModifiers()));
+            fields += constant ? 0 : 1;
+        }
+        Check.yes(one + " has some twenty fields at most", fields <= 20);
     }
 
     private static void fieldsAndConstructors() {
         for (Field field : ModelShelf.class.getDeclaredFields()) {
             boolean constant = field.getName().equals("NONE") || field.getName().equals("NO_ANSWER");
             Check.same(field.getName() + " is open", isPrivate(field) ? 0 : 1, constant ? 1 : 0);
-            if (Modifier.isStatic(field.getModifiers())) {
-                Check.yes(field.getName() + " is final", Modifier.isFinal(field.getModifiers()));
-            }
         }
         Constructor<?>[] constructors = ModelShelf.class.getDeclaredConstructors();
         Check.same("constructors", constructors.length, 1);

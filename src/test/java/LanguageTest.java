@@ -26,7 +26,13 @@ public final class LanguageTest {
         Matcher classes = Pattern.compile("\\bclass \\w+").matcher(code);
         Check.yes("at most twelve classes", classes.results().count() <= 12);
         methodsAreShort(List.of(code.split("\n")));
+        callsAreNotDeep(new CallDepth(List.of(code.split("\n"))));
         Check.end();
+    }
+
+    private static void callsAreNotDeep(CallDepth depth) {
+        Check.yes("the methods are found", depth.methods() > 60);
+        Check.yes("calls go at most eight deep: " + depth.longest(), depth.longest().size() <= 8);
     }
 
     private static void methodsAreShort(List<String> lines) {
